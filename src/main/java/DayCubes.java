@@ -166,7 +166,7 @@ public final class DayCubes {
         switch (what) {
             case 0: return isTold(n) ? 1 : 0;
             case 1: return tellersBut(NO_BLANK).canTell(n) ? 1 : 0;
-            case 2: return walk.leastWork(told, now, n, 1);
+            case 2: return leastWork(n, 1);
             case 3: return tellersBut(NO_BLANK).fewestPastes(n);
             default: return BAD;
         }
@@ -176,7 +176,7 @@ public final class DayCubes {
         if (!isNumber(from) || n < 1 || n > MOST_THROUGH) {
             return BAD;
         }
-        return isNumber(from + n - 1) ? walk.leastWork(told, now, from, n) : NONE;
+        return isNumber(from + n - 1) ? leastWork(from, n) : NONE;
     }
 
     public int odds(int n, int what) {
@@ -307,6 +307,17 @@ public final class DayCubes {
             rest /= 10;
         }
         return true;
+    }
+
+    private int leastWork(int from, int n) {
+        tellersBut(NO_BLANK);
+        for (int i = 0; i < n; i++) {
+            // a walk that can't be would be looked for longest of all
+            if (!tellers.canTell(from + i)) {
+                return NONE;
+            }
+        }
+        return walk.leastThrough(told, now, from, n);
     }
 
     private int sidesNeeded(int c) {
@@ -769,7 +780,7 @@ public final class DayCubes {
         private int last;
         private int best;
 
-        int leastWork(Told desk, Stand stand, int from, int numbers) {
+        int leastThrough(Told desk, Stand stand, int from, int numbers) {
             told = desk;
             now = stand;
             cubes = desk.cubes;

@@ -98,9 +98,13 @@ public final class ModelTest {
         return spoilt.toString();
     }
 
-    /** From 0 to below the bound, and seldom one beside that. */
+    /** From 0 to below the bound, and seldom one that is beside that, or far off. */
     private int about(int bound) {
-        return chance.nextInt(25) == 0 ? (chance.nextBoolean() ? -1 : bound) : chance.nextInt(Math.max(1, bound));
+        if (chance.nextInt(25) != 0) {
+            return chance.nextInt(Math.max(1, bound));
+        }
+        int[] wrong = {-1, bound, bound + 1, Integer.MIN_VALUE, Integer.MAX_VALUE};
+        return wrong[chance.nextInt(wrong.length)];
     }
 
     private int aNumber() {

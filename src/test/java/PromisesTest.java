@@ -15,6 +15,7 @@ public final class PromisesTest {
         p3Clear();
         p4Desk();
         p4DeskFaults();
+        p4DeskAtTheEnd();
         p4DeskReadsAnew();
         p5Side();
         p6Cube();
@@ -157,6 +158,36 @@ public final class PromisesTest {
         fault("d 9;c0 0 0 0 0 0;", 2);
         fault("c0 0 0 0 0 0;d9;c0 0 0 0 0 0;d100;", 30);
         fault("x;#", 0);
+        fault("ba;", 0);
+        fault("bz;", 0);
+        fault("b`;", 1);
+        fault("b{;", 1);
+        fault("c1 2 3 4 5 /;", 11);
+        fault("c1 2 3 4 5 :;", 11);
+        fault("98;", 0);
+        fault("c0 0 0 0 0 0;c0 0 0 0 0 0;d b;", 28);
+    }
+
+    private static void p4DeskAtTheEnd() {
+        for (String end : new String[] {"b", "9", " ", ";", "#"}) {
+            String text = "b;" + " ".repeat(97) + end;
+            DayCubes x = new DayCubes();
+            due("4 text of 100 bytes, " + end, Check.tell(x, text), end.equals(" ") ? 1 : -10 - 99);
+        }
+        DayCubes x = new DayCubes();
+        due("4 ends too early at 100", Check.tell(x, "c1" + " ".repeat(97) + "2"), -110);
+        Check.typeAll(x, "c1 1 1 1 1 1;");
+        x.clear();
+        due("4 old bytes are no digits", Check.tell(x, "c"), -11);
+        x.clear();
+        Check.typeAll(x, "bbbbbbb");
+        due("4 old bytes are no letters", Check.tell(x, "b"), -11);
+        x.clear();
+        Check.typeAll(x, "       ");
+        due("4 old bytes are no blanks", Check.tell(x, "b"), -11);
+        x.clear();
+        Check.typeAll(x, "c1 1 1 1 1 12");
+        due("4 old bytes are no part of a number", Check.tell(x, "c1 1 1 1 1 1"), -22);
     }
 
     private static void p4DeskReadsAnew() {
