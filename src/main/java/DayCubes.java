@@ -76,7 +76,7 @@ public final class DayCubes {
         reader.length = 0;
         now.begin(told);
         seen.size = 0;
-        Arrays.fill(kept, false);
+        forgetImages();
         return told.items;
     }
 
@@ -283,6 +283,12 @@ public final class DayCubes {
 
     private static boolean isImage(int image) {
         return image >= 0 && image < IMAGES;
+    }
+
+    private void forgetImages() {
+        for (int i = 0; i < IMAGES; i++) {
+            kept[i] = false;
+        }
     }
 
     private Tellers tellersBut(int blank) {

@@ -39,6 +39,12 @@ final class Check {
         return x.desk();
     }
 
+    /** What desk() answers for a text on a new object. */
+    static int deskOf(String text) {
+        return tell(new DayCubes(), text);
+    }
+
+    /** A new object that a text was told to. */
     static DayCubes told(String text) {
         DayCubes x = new DayCubes();
         tell(x, text);

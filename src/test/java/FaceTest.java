@@ -4,8 +4,10 @@ import java.lang.reflect.Method;
 import java.lang.reflect.Modifier;
 import java.nio.file.Files;
 import java.nio.file.Path;
+import java.util.List;
 import java.util.Set;
 import java.util.TreeSet;
+import java.util.regex.Matcher;
 import java.util.regex.Pattern;
 
 /** The document's face and no other, and the rules of LANGUAGE.md that can be seen from outside. */
@@ -25,6 +27,7 @@ public final class FaceTest {
         face();
         nested();
         source();
+        sizes();
         check.end();
     }
 
@@ -47,8 +50,8 @@ public final class FaceTest {
             if (!Modifier.isPrivate(f.getModifiers())) {
                 constants.add(f.getName());
             }
-            checkStaticIsFinal(f);
         }
+        checkFields(c);
         check.holds("constants " + constants, constants.equals(new TreeSet<>(CONSTANTS)));
     }
 
@@ -64,9 +67,16 @@ public final class FaceTest {
         return METHODS.stream().anyMatch(m -> m.contains(" " + name + "("));
     }
 
-    private static void checkStaticIsFinal(Field f) {
-        int modifiers = f.getModifiers();
-        check.holds("static " + f + " is final", !Modifier.isStatic(modifiers) || Modifier.isFinal(modifiers));
+    private static void checkFields(Class<?> c) {
+        int own = 0;
+        for (Field f : c.getDeclaredFields()) {
+            boolean fixed = Modifier.isStatic(f.getModifiers());
+            own += fixed ? 0 : 1;
+            check.holds("static " + f + " is final", !fixed || Modifier.isFinal(f.getModifiers()));
+            check.holds("static " + f + " is a number or a row of numbers",
+                !fixed || f.getType() == int.class || f.getType() == int[].class);
+        }
+        check.holds(c + " has some twenty fields at most", own <= 20);
     }
 
     private static void nested() {
@@ -74,9 +84,7 @@ public final class FaceTest {
         check.holds("at most twelve classes", classes.length + 1 <= 12);
         for (Class<?> c : classes) {
             check.holds(c + " is static", Modifier.isStatic(c.getModifiers()));
-            for (Field f : c.getDeclaredFields()) {
-                checkStaticIsFinal(f);
-            }
+            checkFields(c);
             for (Method m : c.getDeclaredMethods()) {
                 check.holds(m + " has a name of its own", !isFaceName(m.getName()));
                 check.holds(m + " takes seven at most", m.getParameterCount() <= 7);
@@ -94,9 +102,36 @@ public final class FaceTest {
             String pattern = Character.isLetter(word.charAt(0)) && word.matches("[a-z]+") ? "\\b" + word + "\\b" : word;
             check.holds("no " + word, !Pattern.compile(pattern).matcher(code).find());
         }
+        Matcher fill = Pattern.compile("Arrays\\.(\\w+)\\((\\w+)").matcher(code);
+        while (fill.find()) {
+            check.due("Arrays." + fill.group(1), fill.group(1).equals("fill") ? 1 : 0, 1);
+            check.holds(fill.group(2) + " is a row of numbers", code.contains("final int[] " + fill.group(2) + " ="));
+        }
         for (String line : code.split("\n")) {
             check.holds("only Arrays is imported: " + line,
                 !line.startsWith("import") || line.equals("import java.util.Arrays;"));
         }
+    }
+
+    /** "Methods stay short (some sixty lines)" */
+    private static void sizes() throws IOException {
+        int began = -1;
+        int methods = 0;
+        List<String> lines = Files.readAllLines(SOURCE);
+        for (int i = 0; i < lines.size(); i++) {
+            String line = lines.get(i);
+            if (line.matches("( {4}| {8})[A-Za-z].*\\) \\{")) {
+                began = i;
+                methods++;
+            } else if (began >= 0 && line.matches("( {4}| {8})\\}") && indent(line) == indent(lines.get(began))) {
+                check.holds("sixty lines at most: " + lines.get(began).trim(), i - began < 60);
+                began = -1;
+            }
+        }
+        check.holds("methods were found", methods > METHODS.size());
+    }
+
+    private static int indent(String line) {
+        return line.length() - line.stripLeading().length();
     }
 }
