@@ -30,6 +30,7 @@ public final class NumberEdgesTest {
         throughWithNoneSoGreat();
         throughEndsAtTheGreatest();
         throughByDearTurns();
+        throughWithFiguresAsTheyAreNow();
         fewestPastes();
         daysThatAreDone();
         sidesThatAreNeeded();
@@ -319,6 +320,16 @@ public final class NumberEdgesTest {
         // the 1 beside has the 2 over against it, the other 1 has it beside
         due("the dearer way at first is the cheaper one", Check.told("c0 1 9 9 2 1;").through(1, 2), 3);
         due("for one number it is not", Check.told("c0 1 9 9 2 1;").through(1, 1), 1);
+    }
+
+    /** What was reckoned for FIGURES that are there no more counts no more. */
+    private static void throughWithFiguresAsTheyAreNow() {
+        DayCubes x = Check.told("c7 2 0 3 1 3;c0 1 2 3 3 3;");
+        due("20, 21: the first tells the 2, the other one 0 and 1", x.through(20, 2), 1 + 1);
+        x.pastes(0, 1, 8);
+        due("20, 21: a change and two turns; a turn", x.through(20, 2), 3 + 1);
+        x.undo();
+        due("20, 21: as ahead of it", x.through(20, 2), 1 + 1);
     }
 
     /** "PASTES for a number: the fewest SIDES to be PASTED so that it can be TOLD (0: none)." */
