@@ -742,7 +742,7 @@ public final class DayCubes {
             int many = 0;
             for (int figure = last; figure < FIGURES; figure++) {
                 int run = figure == last ? alike + 1 : 1;
-                int more = orders * (length + 1) / run;
+                int more = run > 0 ? orders * (length + 1) / run : 0;
                 many += manyFrom(length + 1, withOneMore(sets, figure), figure, run, more);
             }
             return many;

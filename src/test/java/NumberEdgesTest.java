@@ -30,6 +30,7 @@ public final class NumberEdgesTest {
         throughWithNoneSoGreat();
         throughEndsAtTheGreatest();
         throughByDearTurns();
+        throughByRingsOfChanges();
         throughWithFiguresAsTheyAreNow();
         fewestPastes();
         daysThatAreDone();
@@ -320,6 +321,26 @@ public final class NumberEdgesTest {
         // the 1 beside has the 2 over against it, the other 1 has it beside
         due("the dearer way at first is the cheaper one", Check.told("c0 1 9 9 2 1;").through(1, 2), 3);
         due("for one number it is not", Check.told("c0 1 9 9 2 1;").through(1, 1), 1);
+    }
+
+    /** "ahead of each CUBES are CHANGED, TURNED, once each at most", CHANGES as many as are needed */
+    private static void throughByRingsOfChanges() {
+        // 129 by the CUBES 0 1 2 alone, 130 by 1 2 0 alone, each by its SIDE of it
+        DayCubes x = Check.told("c1 0 7 7 7 7;c2 1 7 7 7 7;c8 9 3 7 7 7;");
+        due("128 is told", x.through(128, 1), 0);
+        due("128, 129: a turn", x.through(128, 2), 1);
+        due("128, 129, 130: a turn; two changes, three turns", x.through(128, 3), 1 + 2 + 3);
+        x.turn(2, 1);
+        due("129, 130: two changes, three turns", x.through(129, 2), 2 + 3);
+        due("130 alone", x.number(130, 2), 2 + 3);
+        // 1239 by the CUBES 0 1 2 3 alone, 1240 by 1 2 3 0 alone
+        DayCubes y = Check.told("c1 0 7 7 7 7;c2 1 7 7 7 7;c3 2 7 7 7 7;c9 4 7 7 7 7;");
+        due("1239 is told", y.through(1239, 1), 0);
+        due("1239, 1240: three changes, four turns", y.through(1239, 2), 3 + 4);
+        due("1240 alone", y.number(1240, 2), 3 + 4);
+        y.changes(0, 3);
+        due("back, then all of it", y.through(1239, 2), 1 + 3 + 4);
+        due("1240 alone: a change less", y.number(1240, 2), 2 + 4);
     }
 
     /** What was reckoned for FIGURES that are there no more counts no more. */
